@@ -9,6 +9,8 @@ public final class MoonReapers {
     private static final int HOURS_MOST = 12, HOURS_AT_FIRST = 8;
     private static final int YARDS_MOST = 40, OIL_MOST = 9, EDGE_MOST = 3, WAGE_MOST = 99;
     private static final int TENTHS = 10;
+    /** More than can be lost in any night. */
+    private static final int ANY_LOSS = 1000000;
     private static final int SEEN_MOST = 8, PAID_MOST = 4, RUN_HOURS = 6;
     private static final int IMAGES = 2, SHEETS = 4, LANES = 3, CELLS_MOST = 40, READ_MOST = 20;
     private static final int FAULT_BASE = -10, BAD_PAIR_BASE = -20;
@@ -508,6 +510,8 @@ public final class MoonReapers {
         final int[] at = new int[REAPERS_MOST];
         final int[] wage = new int[REAPERS_MOST];
         final int[] harvest = new int[OWNERS];
+        /** How many YARDS those who cut were short of their PACES, since passUntilDone began. */
+        private int lost;
 
         /** Strips and reapers of before need no wiping: adding one writes all that it has. */
         void clear() {
@@ -675,7 +679,7 @@ public final class MoonReapers {
 
         private int work(int r, boolean cloudy) {
             int i = nearestWithYards(at[r]);
-            if (!isStrip(i)) {
+            if (i < 0 || i >= strips) {
                 return 0;
             }
             at[r] = i;
@@ -698,6 +702,7 @@ public final class MoonReapers {
             int n = Math.min(most, yards[i]);
             yards[i] -= n;
             wage[r] += n;
+            lost += pace[r] - n;
             bride = r;
             int o = owner[i];
             if (o >= 0 && o < OWNERS) {
@@ -721,10 +726,16 @@ public final class MoonReapers {
             return NONE;
         }
 
-        /** Passes HOURS until it is DONE: how many these were; NONE: not in so many, not in THE NIGHT. */
-        int passUntilDone(int most) {
+        /** Passes HOURS until it is DONE: how many these were; NONE: not in THE NIGHT. */
+        int passUntilDone() {
+            return passUntilDone(HOURS_MOST, ANY_LOSS);
+        }
+
+        /** The same in so many HOURS at the most; given up as soon as more is lost than can be spared. */
+        int passUntilDone(int most, int spare) {
             int rest = standing();
-            for (int k = 0; k < most && rest > 0 && hour < hours; k++) {
+            lost = 0;
+            for (int k = 0; k < most && rest > 0 && lost <= spare && hour < hours; k++) {
                 rest -= passHour(isCloudy(hour));
                 if (rest == 0) {
                     return k + 1;
@@ -754,21 +765,6 @@ public final class MoonReapers {
                 }
             }
             return cuts;
-        }
-
-        /** No BEGINNING can be DONE sooner than this: THISTLES and what is short of a PACE only hold up. */
-        int soonestThinkable() {
-            int rest = standing();
-            for (int n = 0; n <= hoursLeft(); n++) {
-                int most = 0;
-                for (int r = 0; r < reapers; r++) {
-                    most += pace[r] * cutsAhead(r, oil[r], n);
-                }
-                if (most >= rest) {
-                    return n;
-                }
-            }
-            return NONE;
         }
     }
 
@@ -1097,6 +1093,8 @@ public final class MoonReapers {
         private final int[] pick = new int[REAPERS_MOST];
         private final int[] top = new int[REAPERS_MOST];
         private final int[] chosen = new int[REAPERS_MOST];
+        /** The most that all can cut in so many HOURS, and one REAPER by so much OIL: wherever they are. */
+        private final int[] reach = new int[HOURS_MOST + 1];
         private final int[][] mostCut = new int[REAPERS_MOST][OILS];
         private final int[][] saved = new int[HOURS_MOST][SAVED];
 
@@ -1112,7 +1110,7 @@ public final class MoonReapers {
 
         int doneAfter(Field now) {
             trial.copyFrom(now);
-            return trial.passUntilDone(HOURS_MOST);
+            return trial.passUntilDone();
         }
 
         Field afterDrift(Field now, int seed, int v) {
@@ -1126,27 +1124,39 @@ public final class MoonReapers {
             return trial;
         }
 
+        /** In how many HOURS the soonest BEGINNING is DONE, or NONE; the STRIPS are chosen. */
         int soonest(Field now) {
-            int thinkable = now.soonestThinkable();
-            if (thinkable == NONE) {
-                return NONE;
-            }
+            countReach(now);
             startPicks(now.strips - 1);
+            int stand = now.standing();
             int best = NONE;
             int most = now.hoursLeft();
-            for (int k = 0; k < BEGINNINGS_MOST; k++) {
+            for (int k = 0; k < BEGINNINGS_MOST && isInReach(stand, most); k++) {
                 beginAsPicked(now);
-                int hours = trial.passUntilDone(most);
+                int hours = trial.passUntilDone(most, reach[most] - stand);
                 if (hours != NONE) {
                     best = hours;
                     choosePicks();
                     most = hours - 1;
                 }
-                if (best == thinkable || !turnPicks(now.reapers)) {
+                if (!turnPicks(now.reapers)) {
                     break;
                 }
             }
             return best;
+        }
+
+        private void countReach(Field now) {
+            for (int n = 0; n <= HOURS_MOST; n++) {
+                reach[n] = 0;
+                for (int r = 0; r < now.reapers; r++) {
+                    reach[n] += now.pace[r] * now.cutsAhead(r, now.oil[r], n);
+                }
+            }
+        }
+
+        private boolean isInReach(int stand, int n) {
+            return n >= 0 && n <= HOURS_MOST && reach[n] >= stand;
         }
 
         /** BEGINNINGS that FIT: how many; the STRIPS of each REAPER by them are chosen, as bits. */
@@ -1174,7 +1184,7 @@ public final class MoonReapers {
                 return true;
             }
             beginAsPicked(now);
-            trial.passUntilDone(HOURS_MOST);
+            trial.passUntilDone();
             return paid.isAsPaid(trial);
         }
 
@@ -1213,7 +1223,7 @@ public final class MoonReapers {
                 if (trial.isReaper(r)) {
                     trial.at[r] = i;
                 }
-                trial.passUntilDone(HOURS_MOST);
+                trial.passUntilDone();
                 int stand = trial.standing();
                 if (best == NONE || stand < fewest) {
                     best = i;
@@ -1229,7 +1239,7 @@ public final class MoonReapers {
                 if (trial.isReaper(r)) {
                     trial.oil[r] = v;
                 }
-                if (trial.passUntilDone(HOURS_MOST) != NONE) {
+                if (trial.passUntilDone() != NONE) {
                     return v;
                 }
             }
@@ -1246,7 +1256,7 @@ public final class MoonReapers {
             for (int k = 0; k < OIL_CHOICES_MOST; k++) {
                 int sum = sumOfPicks(now.reapers);
                 // in this order the first of equal sums comes first, so only a lesser one takes its place
-                if ((best == NONE || sum < best) && mostCutByPicks(now.reapers) >= stand && isDoneByPicks(now)) {
+                if ((best == NONE || sum < best) && isDoneByPicks(now, mostCutByPicks(now.reapers) - stand)) {
                     best = sum;
                     choosePicks();
                 }
@@ -1284,10 +1294,13 @@ public final class MoonReapers {
             return sum;
         }
 
-        private boolean isDoneByPicks(Field now) {
+        private boolean isDoneByPicks(Field now, int spare) {
+            if (spare < 0) {
+                return false;
+            }
             trial.copyFrom(now);
             System.arraycopy(pick, 0, trial.oil, 0, REAPERS_MOST);
-            return trial.passUntilDone(HOURS_MOST) != NONE;
+            return trial.passUntilDone(HOURS_MOST, spare) != NONE;
         }
 
         /** How many of the 10 to the HOURS left equal chances have it DONE, CLOUDS having v of ten. */
