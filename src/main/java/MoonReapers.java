@@ -1309,6 +1309,7 @@ public final class MoonReapers {
             return weightFrom(0, v);
         }
 
+        /** Leaves the trial somewhere ahead: who needs it again has saved it. */
         private long weightFrom(int depth, int v) {
             int stand = trial.standing();
             int left = trial.hoursLeft();
@@ -1329,7 +1330,6 @@ public final class MoonReapers {
             if (v < TENTHS) {
                 trial.passHour(false);
                 weight += (TENTHS - v) * weightFrom(depth + 1, v);
-                restore(here);
             }
             return weight;
         }

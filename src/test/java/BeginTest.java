@@ -104,6 +104,14 @@ public final class BeginTest {
         x.grow(0, 8);
         C.due("no oil", x.least(0), 0);
         C.due("no oil", x.least(10), 0);
+        MoonReapers all = Check.told("night 12;strip 9 0;strip 9 0;strip 9 0;strip 9 0;reaper 1 0 0;reaper 1 0 1;reaper 1 0 2;reaper 1 0 3;");
+        for (int t = 0; t < 12; t++) {
+            all.cloud(t, true);
+        }
+        C.due("nine each", all.least(0), 36);
+        for (int r = 0; r < 4; r++) {
+            C.due("nine each", all.least(10 + r), 9);
+        }
         MoonReapers one = Check.told("night 1;strip 5 0;reaper 4 0 0;reaper 5 0 0;cloud 0;");
         C.due("the second alone does it", one.least(0), 1);
         C.due("the first needs none", one.least(10), 0);

@@ -55,6 +55,10 @@ public final class ChangeTest {
         C.due("lend(0, 1, 10)", x.lend(0, 1, 10), BAD);
         C.due("lend(0, 1, -1)", x.lend(0, 1, -1), BAD);
         C.due("all OIL", x.count(2), 18);
+        x.fill(1, 5);
+        C.due("lend(1, 0, -1)", x.lend(1, 0, -1), BAD);
+        C.due("OIL of the one", x.reaper(1, 1), 5);
+        C.due("OIL of the other", x.reaper(0, 1), 9);
     }
 
     private static void whetAndFill() {

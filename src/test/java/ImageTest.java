@@ -12,7 +12,8 @@ public final class ImageTest {
         c.due("back(0)", x.back(0), MoonReapers.STATE);
         x.go(1);
         x.see(1, 2, false);
-        x.pay(1, 7);
+        x.pay(1, x.ahead(1, 12, 4));
+        c.holds("his wage is paid, so some beginnings fit, and not all", x.fits(0) > 0 && x.fits(0) < 9);
         c.due("keep(1)", x.keep(1), 0);
         c.due("keep(1) again", x.keep(1), 1);
         c.due("count(5)", x.count(5), 1);

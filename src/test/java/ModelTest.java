@@ -40,6 +40,7 @@ public final class ModelTest {
         for (int k = 0; k < runs; k++) {
             test.run(k);
             test.ponder(k);
+            test.sendBySheets();
         }
         test.check.finish();
     }
@@ -110,9 +111,39 @@ public final class ModelTest {
             }
         }
         ask("send", 0, 0);
+        askFits(reapers);
+        ask("keep", 1);
+        ask("owe", random.nextInt(x.count(4) + 1));
+        ask("pay", random.nextInt(reapers), random.nextInt(20));
+        askFits(reapers);
+        ask("back", 1);
+        askFits(reapers);
+    }
+
+    private void askFits(int reapers) throws Exception {
         ask("fits", 0);
         for (int r = 0; r < reapers; r++) {
             ask("fits", 10 + r);
+        }
+    }
+
+    /** On the night that was pondered: sheets with mostly good pairs, read from anywhere in them. */
+    private void sendBySheets() throws Exception {
+        for (int n = 0; n < 12; n++) {
+            int k = random.nextInt(2);
+            int lane = random.nextInt(3);
+            int cells = random.nextInt(9);
+            ask("sheet", k, lane, random.nextInt(9) == 0 ? -1 - cells : cells);
+            int most = random.nextInt(3) == 0 ? 5 : 2;
+            for (int i = 0; i < cells; i++) {
+                ask("lay", k, i, random.nextInt(most) + (random.nextInt(12) == 0 ? 256 : 0));
+            }
+            int as = random.nextInt(4) == 0 ? random.nextInt(3) : lane;
+            ask("read", random.nextInt(8) == 0 ? 2 : k, as, random.nextInt(4) - random.nextInt(2), random.nextInt(5));
+            ask("torn");
+            for (int r = 0; r < 4; r++) {
+                ask("reaper", r, 3);
+            }
         }
     }
 

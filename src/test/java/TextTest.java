@@ -86,6 +86,10 @@ public final class TextTest {
         read(x, "night -1;", -16, 1);
         read(x, "nights 3;", -10, 2);
         read(x, "nigh 3;", -10, 2);
+        read(x, "eight 3;", -10, 2);
+        read(x, "nighs 3;", -10, 2);
+        read(x, "nipht 3;", -10, 2);
+        read(x, "zloud 3;", -10, 2);
         read(x, "a", -10, 2);
         read(x, ";", -10, 2);
         read(x, "7", -10, 2);
