@@ -35,6 +35,7 @@ public final class BeginTest {
         C.due("thistles hold up", held.begin(0), 2);
         MoonReapers hold = Check.told("night 1;strip 9 0;reaper 9 0 0;thistle 0;");
         C.due("thistles hold up too long", hold.begin(0), NONE);
+        lastBeginning();
         C.due("no strips", new MoonReapers().begin(0), MoonReapers.STATE);
         C.due("no reapers", Check.told("strip 0 0;").begin(0), MoonReapers.STATE);
         MoonReapers now = Check.told("night 2;strip 0 0;strip 0 0;reaper 1 0 1;reaper 1 0 1;");
@@ -45,6 +46,16 @@ public final class BeginTest {
         C.due("done, the night over", now.begin(0), 0);
         now.grow(0, 1);
         C.due("the night is over", now.begin(0), NONE);
+    }
+
+    /** Of 2401 beginnings only the last one is done in three hours: 61 yards, of 63 that can be cut. */
+    private static void lastBeginning() {
+        MoonReapers x = Check.told("night 3;strip 0 0;strip 1 0;strip 0 0;strip 0 0;strip 29 0;strip 6 0;strip 25 0;"
+                + "reaper 4 0 0;reaper 6 0 0;reaper 8 0 0;reaper 3 0 0;");
+        C.due("the last beginning", x.begin(0), 3);
+        for (int r = 0; r < 4; r++) {
+            C.due("the last beginning", x.begin(10 + r), 6);
+        }
     }
 
     private static void best() {

@@ -40,6 +40,11 @@ public final class LuckTest {
         }
         odds(Check.told("night 11;strip 36 0;strip 36 0;strip 9 0;reaper 9 0 0;"), 1, part, 1000000000L);
         odds(Check.told("night 11;strip 36 0;strip 36 0;strip 10 0;reaper 9 0 0;"), 1, 0, 1);
+        // one clear hour of twelve is enough: 1 less 3 to the 12th by 10 to the 12th
+        odds(Check.told("night 12;strip 3 0;reaper 3 0 0;"), 3, 1000000000000L - 531441L, 1000000000000L);
+        MoonReapers eleven = Check.told("night 12;strip 3 0;reaper 3 0 0;cloud 0;");
+        eleven.go(1);
+        odds(eleven, 3, 100000000000L - 177147L, 100000000000L);
         odds(Check.told("strip 1 0;"), 5, 0, 1);
         odds(Check.told("strip 0 0;"), 5, 1, 1);
         C.finish();

@@ -148,7 +148,7 @@ public final class ModelTest {
     }
 
     private String tightText(int reapers) {
-        int hours = 2 + random.nextInt(reapers == 4 ? 5 : 8);
+        int hours = reapers == 1 && random.nextInt(3) == 0 ? 12 : 2 + random.nextInt(reapers == 4 ? 5 : 8);
         int strips = 1 + random.nextInt(reapers == 4 ? 4 : 6);
         StringBuilder out = new StringBuilder("night " + hours + ";");
         int paces = 0;

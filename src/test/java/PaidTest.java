@@ -54,6 +54,14 @@ public final class PaidTest {
         C.due("fits(9)", x.fits(9), BAD);
         C.due("fits(-1)", x.fits(-1), BAD);
         C.due("nobody went", x.reaper(0, 3), 0);
+        MoonReapers many = Check.told("strip 1 0;".repeat(7) + "reaper 1 0 0;".repeat(4));
+        C.due("all of 7 strips and 4 reapers", many.fits(0), 2401);
+        // the seven yards are cut in two hours: two by each, but one by the last
+        many.pay(3, 1);
+        C.due("all of them fit", many.fits(0), 2401);
+        for (int r = 0; r < 4; r++) {
+            C.due("anywhere", many.fits(10 + r), 127);
+        }
         MoonReapers late = Check.told("night 2;strip 9 0;strip 1 0;reaper 3 0 0;");
         late.go(1);
         late.pay(0, 4);
