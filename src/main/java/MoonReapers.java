@@ -726,12 +726,10 @@ public final class MoonReapers {
             return NONE;
         }
 
-        /** Passes HOURS until it is DONE: how many these were; NONE: not in THE NIGHT. */
-        int passUntilDone() {
-            return passUntilDone(HOURS_MOST, ANY_LOSS);
-        }
-
-        /** The same in so many HOURS at the most; given up as soon as more is lost than can be spared. */
+        /**
+         * Passes HOURS until it is DONE, so many at the most: how many these were; NONE: it is not DONE by then.
+         * Given up as soon as more is lost than can be spared.
+         */
         int passUntilDone(int most, int spare) {
             int rest = standing();
             lost = 0;
@@ -1110,7 +1108,7 @@ public final class MoonReapers {
 
         int doneAfter(Field now) {
             trial.copyFrom(now);
-            return trial.passUntilDone();
+            return trial.passUntilDone(HOURS_MOST, ANY_LOSS);
         }
 
         Field afterDrift(Field now, int seed, int v) {
@@ -1184,7 +1182,7 @@ public final class MoonReapers {
                 return true;
             }
             beginAsPicked(now);
-            trial.passUntilDone();
+            trial.passUntilDone(HOURS_MOST, ANY_LOSS);
             return paid.isAsPaid(trial);
         }
 
@@ -1223,7 +1221,7 @@ public final class MoonReapers {
                 if (trial.isReaper(r)) {
                     trial.at[r] = i;
                 }
-                trial.passUntilDone();
+                trial.passUntilDone(HOURS_MOST, ANY_LOSS);
                 int stand = trial.standing();
                 if (best == NONE || stand < fewest) {
                     best = i;
@@ -1239,7 +1237,7 @@ public final class MoonReapers {
                 if (trial.isReaper(r)) {
                     trial.oil[r] = v;
                 }
-                if (trial.passUntilDone() != NONE) {
+                if (trial.passUntilDone(HOURS_MOST, ANY_LOSS) != NONE) {
                     return v;
                 }
             }

@@ -15,10 +15,15 @@ final class Check {
         due(what, is ? 1 : 0, 1);
     }
 
+    /** Something was asked, and no answer was wrong. */
+    boolean isRight() {
+        return wrong == 0 && asked > 0;
+    }
+
     /** Ends the program with exit code 1 if an answer was wrong, or if none was asked. */
     void finish() {
         System.out.println(asked + " answers, " + wrong + " wrong");
-        if (wrong != 0 || asked == 0) {
+        if (!isRight()) {
             System.exit(1);
         }
     }
