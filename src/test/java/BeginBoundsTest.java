@@ -82,7 +82,8 @@ public final class BeginBoundsTest {
 
     // ---- promise 24
 
-    @Says(promise = 24, words = "so that fewest YARDS stand when THE NIGHT is over, of several the first (what 0), how many these are (1)")
+    @Says(promise = 24, words = "so that fewest YARDS stand when THE NIGHT is over, of several the first (what 0),"
+            + " how many these are (1)")
     static void fewestStandByTheFirstStrip(Check c) {
         MoonReapers x = Check.told("night 1;strip 3 0;strip 9 0;strip 9 0;reaper 9 0 0;");
         c.due("the first of two", x.best(0, 0), 1);
@@ -107,7 +108,8 @@ public final class BeginBoundsTest {
 
     // ---- promise 25
 
-    @Says(promise = 25, words = "The least OIL (0 to 9) of a REAPER, all else as it is, by which it is DONE in THE NIGHT.")
+    @Says(promise = 25, words = "The least OIL (0 to 9) of a REAPER, all else as it is, by which it is DONE in THE"
+            + " NIGHT.")
     static void fromNoOilToNine(Check c) {
         for (int y = 0; y <= 9; y++) {
             c.due(y + " yards under clouds", dark(y).oil(0), y);
@@ -132,7 +134,8 @@ public final class BeginBoundsTest {
 
     // ---- promise 26
 
-    @Says(promise = 26, words = "The least sum of OIL of all REAPERS (0 to 9 each, in place of what they have) by which it is DONE in THE NIGHT (what 0)")
+    @Says(promise = 26, words = "The least sum of OIL of all REAPERS (0 to 9 each, in place of what they have) by"
+            + " which it is DONE in THE NIGHT (what 0)")
     static void fromNoOilToNineEach(Check c) {
         for (int y = 0; y <= 9; y++) {
             MoonReapers x = dark(y);
@@ -182,7 +185,8 @@ public final class BeginBoundsTest {
 
     // ---- promise 27
 
-    @Says(promise = 27, words = "CLOUDS coming in each HOUR that is left by v out of ten (0 to 10), by itself (in place of those told)")
+    @Says(promise = 27, words = "CLOUDS coming in each HOUR that is left by v out of ten (0 to 10), by itself (in"
+            + " place of those told)")
     static void cloudsNeverAndAlways(Check c) {
         MoonReapers x = dark(9);
         c.due("never, though they are told", x.luck(0, 0), 1);
@@ -194,7 +198,8 @@ public final class BeginBoundsTest {
         c.due("always, by enough oil, by", x.luck(10, 1), 1);
     }
 
-    @Says(promise = 27, words = "CLOUDS coming in each HOUR that is left by v out of ten (0 to 10), by itself (in place of those told)")
+    @Says(promise = 27, words = "CLOUDS coming in each HOUR that is left by v out of ten (0 to 10), by itself (in"
+            + " place of those told)")
     static void oneHourLeftAndNone(Check c) {
         MoonReapers x = Check.told("night 12;strip 1 0;reaper 1 0 0;");
         for (int t = 0; t < 12; t++) {

@@ -12,7 +12,8 @@ import java.util.regex.Pattern;
 public final class BoundsListTest {
     private static final int PROMISES = 43;
     /** What names a bound: a refusal, a range, a most. */
-    private static final Pattern BOUND = Pattern.compile("\\bBAD\\b|\\bSTATE\\b|\\bFULL\\b|\\bNONE\\b|\\b\\d+ to \\w+|\\d+ at most");
+    private static final Pattern BOUND = Pattern.compile(
+            "\\bBAD\\b|\\bSTATE\\b|\\bFULL\\b|\\bNONE\\b|\\b\\d+ to \\w+|\\d+ at most");
     private static final Check C = new Check();
 
     public static void main(String[] args) throws IOException {

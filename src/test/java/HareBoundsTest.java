@@ -160,8 +160,8 @@ public final class HareBoundsTest {
 
     // ---- promise 32
 
-    @Says(promise = 32, words = "The STRIP to look at behind n HOURS (0 to 6) so that of runs (as in runs()) fewest are left at the worst"
-            + " (it is there then, or not)")
+    @Says(promise = 32, words = "The STRIP to look at behind n HOURS (0 to 6) so that of runs (as in runs()) fewest are"
+            + " left at the worst (it is there then, or not)")
     static void lookedForFromNowToSix(Check c) {
         MoonReapers x = strips(7);
         int[] left = {3387 - 659, 3387 - 27 * 27, 3387 - 659};

@@ -8,7 +8,8 @@ public final class ImageBoundsTest {
 
     // ---- promise 37
 
-    @Says(promise = 37, words = "IMAGE k (0, 1) is STRIPS, REAPERS (all of them), CLOUDS, HOUR, HARVESTS, THE BRIDE, what was SEEN, PAID")
+    @Says(promise = 37, words = "IMAGE k (0, 1) is STRIPS, REAPERS (all of them), CLOUDS, HOUR, HARVESTS, THE BRIDE,"
+            + " what was SEEN, PAID")
     static void anImageOfAnEmptyNight(Check c) {
         MoonReapers x = new MoonReapers();
         String empty = Portrait.of(x);
@@ -18,7 +19,8 @@ public final class ImageBoundsTest {
                 "count 0 count 0 count 1")));
     }
 
-    @Says(promise = 37, words = "IMAGE k (0, 1) is STRIPS, REAPERS (all of them), CLOUDS, HOUR, HARVESTS, THE BRIDE, what was SEEN, PAID")
+    @Says(promise = 37, words = "IMAGE k (0, 1) is STRIPS, REAPERS (all of them), CLOUDS, HOUR, HARVESTS, THE BRIDE,"
+            + " what was SEEN, PAID")
     static void anImageOfAFullNight(Check c) {
         MoonReapers x = Check.told("night 12;" + "strip 40 3;".repeat(7) + "reaper 9 9 6;".repeat(4) + "cloud 11;");
         for (int k = 0; k < 8; k++) {
@@ -103,7 +105,8 @@ public final class ImageBoundsTest {
 
     // ---- promise 43
 
-    @Says(promise = 43, words = "How many: 0 STRIPS with YARDS, 1 all WAGES, 2 all OIL, 3 SEEN, 4 PAID, 5 IMAGES, 6 bytes on THE TAPE")
+    @Says(promise = 43, words = "How many: 0 STRIPS with YARDS, 1 all WAGES, 2 all OIL, 3 SEEN, 4 PAID, 5 IMAGES, 6"
+            + " bytes on THE TAPE")
     static void fromNoneToTheMost(Check c) {
         MoonReapers x = new MoonReapers();
         Bounds.each(c, "none", x::count, 0, 0, 1, 2, 3, 4, 5, 6);

@@ -5,11 +5,12 @@ import java.util.function.ToLongFunction;
 
 /**
  * The terms say: what is refused changes nothing. Of two objects made alike one is asked what is refused, and then
- * both must be alike still, in all that can be asked. The same for calls that only ask, or change nothing by their numbers.
+ * both must be alike still, in all that can be asked. The same for calls that only ask, or whose numbers leave all as
+ * it is.
  */
 public final class RefusedTest {
-    private static final int BAD = MoonReapers.BAD, STATE = MoonReapers.STATE, FULL = MoonReapers.FULL, NONE = MoonReapers.NONE;
-    private static final int MIN = Integer.MIN_VALUE, MAX = Integer.MAX_VALUE;
+    private static final int BAD = Bounds.BAD, STATE = Bounds.STATE, FULL = Bounds.FULL, NONE = Bounds.NONE;
+    private static final int MIN = Bounds.MIN, MAX = Bounds.MAX;
     private static final Check C = new Check();
 
     private record Asked(String call, ToLongFunction<MoonReapers> how, long due) { }
@@ -47,7 +48,8 @@ public final class RefusedTest {
 
     /** A night of which two hours of five went, with an image, sheets, bytes on the tape, things seen and paid. */
     private static MoonReapers amidst() {
-        MoonReapers x = Check.told("night 5;strip 9 2;strip 4 0;strip 7 3;reaper 3 2 0;reaper 2 7 2;cloud 1;cloud 3;thistle 2;");
+        MoonReapers x = Check.told("night 5;strip 9 2;strip 4 0;strip 7 3;reaper 3 2 0;reaper 2 7 2;cloud 1;cloud 3;"
+                + "thistle 2;");
         x.keep(0);
         x.go(2);
         x.see(2, 1, false);

@@ -35,7 +35,8 @@ public final class SheetBoundsTest {
 
     // ---- the terms
 
-    @Says(promise = 0, words = "SHEETS 0 to 3 are rows of BYTES (lane 0), SHORTS (1), INTS (2) with 0 to 40 CELLS, or nothing (at first).")
+    @Says(promise = 0, words = "SHEETS 0 to 3 are rows of BYTES (lane 0), SHORTS (1), INTS (2) with 0 to 40 CELLS, or"
+            + " nothing (at first).")
     static void everySheetOfEveryLane(Check c) {
         MoonReapers x = night();
         for (int k = 0; k <= 3; k++) {
@@ -145,7 +146,8 @@ public final class SheetBoundsTest {
 
     // ---- promise 41
 
-    @Says(promise = 41, words = "n (0 to 20) REAPERS (REAPER, STRIP) are sent by a SHEET taken as of a lane, two CELLS each from CELL f on, as by send(): how many were.")
+    @Says(promise = 41, words = "n (0 to 20) REAPERS (REAPER, STRIP) are sent by a SHEET taken as of a lane, two"
+            + " CELLS each from CELL f on, as by send(): how many were.")
     static void fromNobodyToTwenty(Check c) {
         MoonReapers x = night();
         x.sheet(0, 1, 40);
@@ -174,7 +176,8 @@ public final class SheetBoundsTest {
         where(c, x, 1, 2, 1);
     }
 
-    @Says(promise = 41, words = "What the machine refuses: those that were whole ahead were (its FAULT is asked by torn()).")
+    @Says(promise = 41, words = "What the machine refuses: those that were whole ahead were (its FAULT is asked by"
+            + " torn()).")
     static void indexBelowAndAbove(Check c) {
         MoonReapers x = night(0, 0, 1, 1, 2, 2);
         reads(c, "two whole and a half", x.read(0, 0, 0, 3), 2, x, INDEX);
@@ -187,7 +190,8 @@ public final class SheetBoundsTest {
         reads(c, "of no cells", empty.read(0, 0, 0, 1), 0, empty, INDEX);
     }
 
-    @Says(promise = 41, words = "What the machine refuses: those that were whole ahead were (its FAULT is asked by torn()).")
+    @Says(promise = 41, words = "What the machine refuses: those that were whole ahead were (its FAULT is asked by"
+            + " torn()).")
     static void nothingAndAnotherLane(Check c) {
         MoonReapers x = night(1, 0, 1, 1, 2);
         for (int lane = 0; lane <= 2; lane++) {
@@ -202,7 +206,8 @@ public final class SheetBoundsTest {
         where(c, x, 1, 2, 0);
     }
 
-    @Says(promise = 41, words = "What the machine refuses: those that were whole ahead were (its FAULT is asked by torn()).")
+    @Says(promise = 41, words = "What the machine refuses: those that were whole ahead were (its FAULT is asked by"
+            + " torn()).")
     static void nobodyIsRead(Check c) {
         MoonReapers x = night(1, 0, 1);
         reads(c, "from anywhere", x.read(0, 1, MIN, 0), 0, x, 0);
